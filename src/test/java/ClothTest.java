@@ -60,7 +60,7 @@ public final class ClothTest {
         TapestryDesk x = new TapestryDesk();
         x.handle(0);
         x.macro(0, 0, 0, 0);
-        x.run(0, 1, 1, 0, 0, 5);
+        x.run(6, 1, 0, 0, 0, 5);
         x.run(11, 2, 0, 0, 0, 0);
         x.run(0, 1, 1, 0, 0, 6);
         x.run(12, 1, 0, 0, 0, 0);

@@ -181,6 +181,13 @@ public final class CommandTest {
         x.run(9, 1, 2, 1, 1, 2);
         x.run(5, 1, 1, 0, 0, 0);
         T.due("shift in the box", Due.picture(x, 0), "1867/5473");
+        x = Due.desk("12/34/56/78");
+        x.run(9, 1, 0, 3, 2, 0);
+        x.run(5, 1, 0, 0, 0, 0);
+        T.due("shift in a lower box", Due.picture(x, 0), "12/78/34/56");
+        x.run(9, 2, 0, 1, 2, 0);
+        x.run(5, 7, 1, 0, 0, 0);
+        T.due("shift in a box of one row", Due.picture(x, 0), "12/78/43/56");
     }
 
     private static void border() {
@@ -196,6 +203,10 @@ public final class CommandTest {
         x.run(9, 1, 1, 1, 1, 2);
         x.run(6, 1, 0, 0, 0, 5);
         T.due("border of the box", Due.picture(x, 0), "000000/005550/050050/055550/000000");
+        x.run(9, 0, 0, 1, 2, 0);
+        x.run(6, 1, 0, 0, 0, 6);
+        T.due("border of a box that is smaller than the one ahead", Due.picture(x, 0),
+                "660000/005550/050050/055550/000000");
     }
 
     private static void swap() {
