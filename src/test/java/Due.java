@@ -1,3 +1,8 @@
+import java.io.IOException;
+import java.io.UncheckedIOException;
+import java.nio.charset.StandardCharsets;
+import java.nio.file.Files;
+import java.nio.file.Path;
 import java.util.Arrays;
 import java.util.function.LongSupplier;
 
@@ -5,10 +10,26 @@ import java.util.function.LongSupplier;
 final class Due {
     private int wrong = 0;
     private String sentence = "";
+    private String document = "";
 
-    /** What is asked from here on holds this sentence of the document; told with each wrong answer. */
+    /**
+     * What is asked from here on holds this sentence of the document; told with each wrong answer.
+     * The document must have it, word for word, so that a test never goes by what is no longer said.
+     */
     void of(String words) {
         sentence = words;
+        if (document.isEmpty()) {
+            document = read("../shared/DOC.md").replaceAll("\\s+", " ");
+        }
+        isTrue("the document says this", document.contains(words));
+    }
+
+    private static String read(String path) {
+        try {
+            return Files.readString(Path.of(path), StandardCharsets.UTF_8);
+        } catch (IOException e) {
+            throw new UncheckedIOException(e);
+        }
     }
 
     private void tell(String text) {
