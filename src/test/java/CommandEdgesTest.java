@@ -234,6 +234,18 @@ public final class CommandEdgesTest {
         x.run(9, 1, 0, 1, 4, 3);
         x.run(4, 0, 0, 0, 0, 0);
         T.due("and lessens", Due.picture(x, 0), "4332/6778");
+        TapestryDesk y = Due.desk("123/456/789");
+        y.run(4, 0, 0, 0, 0, 0);
+        y.run(9, 0, 0, 2, 2, 0);
+        y.run(4, 0, 0, 0, 0, 0);
+        T.due("its last column is not that of the one ahead", Due.picture(y, 0), "231/564/987");
+        y.run(4, 1, 0, 0, 0, 0);
+        T.due("nor its last row", Due.picture(y, 0), "561/234/987");
+        y.run(9, 2, 2, 1, 1, 0);
+        y.run(6, 1, 0, 0, 0, 9);
+        y.run(9, 0, 0, 1, 1, 0);
+        y.run(6, 1, 0, 0, 0, 8);
+        T.due("nor its first ones", Due.picture(y, 0), "861/234/989");
     }
 
     private static void mirror() {
@@ -288,6 +300,14 @@ public final class CommandEdgesTest {
         Due.choose(x, "0000/0111/0111");
         x.run(5, 20, -20, 0, 0, 0);
         T.due("a box off the corner", Due.picture(x, 0), "1234/5867/9312");
+        x = Due.desk("12/34/56/78");
+        Due.choose(x, "00/11/11/11");
+        x.run(5, 1, 0, 0, 0, 0);
+        T.due("a box off the first row", Due.picture(x, 0), "12/78/34/56");
+        x = Due.desk("1234/5678");
+        Due.choose(x, "0111/0111");
+        x.run(5, 0, 1, 0, 0, 0);
+        T.due("a box off the first column", Due.picture(x, 0), "1423/5867");
         x = Due.desk("1234/5678/9123");
         Due.choose(x, "0000/0010/0000");
         x.run(5, 19, -19, 0, 0, 0);

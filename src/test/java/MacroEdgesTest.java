@@ -9,6 +9,7 @@ public final class MacroEdgesTest {
         twentyAtMost();
         eightPartsAtMost();
         lesserNumbers();
+        deepest();
         inTurnOnce();
         repeatAsOften();
         ifThereIsItsKnot();
@@ -82,6 +83,21 @@ public final class MacroEdgesTest {
         T.due("the one right above", x.nest(18, 19), BAD);
         T.due("the greatest in the least", x.nest(0, 19), BAD);
         T.due("the least in itself", x.nest(0, 0), BAD);
+    }
+
+    /** Twenty in one another, the least of which paints; 19 macros and a handle are called. */
+    private static void deepest() {
+        T.of("MACROS with lesser numbers. A MACRO that is CALLED does its PARTS");
+        TapestryDesk x = new TapestryDesk();
+        x.macro(IN_TURN, 0, 0, 0);
+        x.part(0, x.bind(x.handle(0), 4, 9), 7, 7, 0, 0);
+        for (int i = 1; i < 20; i++) {
+            x.macro(IN_TURN, 0, 0, 0);
+            x.nest(i, i - 1);
+        }
+        T.due("play(19)", x.play(19), 1);
+        T.due("outcome()", Due.outcome(x), "0 1 1 -9 0");
+        T.due("at(7, 7, 0)", x.at(7, 7, 0), 9);
     }
 
     private static void inTurnOnce() {
@@ -641,7 +657,7 @@ public final class MacroEdgesTest {
         }
         for (int i = 0; i < 20; i++) {
             T.due("play(" + i + ")", x.play(i), FAILED);
-            T.due("in so many", x.outcome(4), i + 1);
+            T.due("in so many", Due.outcome(x), "1 0 1 11 " + (i + 1));
         }
         x.run(11, 3, 0, 0, 0, 0);
         T.due("a run is in none", x.outcome(4), 0);
