@@ -977,7 +977,7 @@ public final class TapestryDesk {
         }
 
         /** Does a macro that is, itself too, the depth-th of macros in one another. */
-        void callMacro(Macro macro, int depth) {
+        private void callMacro(Macro macro, int depth) {
             // Macros hold lesser ones alone: this cannot come, but it bounds the depth.
             if (depth > MOST_MACROS) {
                 fail(LONG, NONE, depth);
