@@ -3,7 +3,7 @@ import java.nio.charset.StandardCharsets;
 import java.nio.file.Files;
 import java.nio.file.Path;
 
-/** What README.md tells of the class: its example, its limits, and which number is which command. */
+/** What README.md tells: its example, the answers, which number is which command, and each test by name. */
 public final class ReadmeTest {
     private static final Due T = new Due();
     private static String readme = "";
